@@ -1171,7 +1171,6 @@ public final class OfficeTables {
         /** A failure nobody has taken yet: it is the reason of the table or row around it. */
         private boolean fail(int why) {
             addReason(why);
-            isOwned = false;
             return false;
         }
 

@@ -396,7 +396,7 @@ public final class MakingTest {
         OfficeTables x = Checks.of("table a[20]rows=i%9-4;table b[3]whole=i;table c[0]whole=i;table d[20]rows=((i<12)?i:1/0);"
             + "table e[201]whole=i;table f[0]whole=i sum 1;");
         due("find the least", x.find(0, -4), 0);
-        due("only its first row", x.builds(), 2);
+        builds("find asks as a call", x, new int[] {0, -9, -9}, new int[] {0, 0, -9});
         due("find in the second row", x.find(0, 4), 8);
         due("row 2 is asleep", x.row(0, 2), 0);
         due("find none", x.find(0, 5), OfficeTables.NONE);
@@ -508,6 +508,36 @@ public final class MakingTest {
         due("count -1", x.count(-1), OfficeTables.OUTSIDE);
     }
 
+    /** As many numbers wait at once as can. */
+    private static void muchAtOnce() {
+        OfficeTables x = Checks.of("table a[200]whole=b[i]+i;table b[200]whole=c[i]+i;table c[200]rows=i+1 sum 20100;");
+        due("three tables of 200", x.entry(0, 199), 598);
+        StringBuilder chain = new StringBuilder();
+        String names = "abcdefghjklma";
+        long want = 0;
+        for (int k = 0; k < 12; k++) {
+            chain.append("table ").append(names.charAt(k)).append("[1]whole=").append("1+2*(".repeat(7))
+                .append(names.charAt(k + 1)).append("[0]").append(")".repeat(7)).append(";");
+            want = 127 + 128 * want;
+        }
+        x = Checks.of(chain.toString());
+        due("twelve tables, 14 numbers waiting in each", x.entry(0, 0), want);
+        due("the first one was half made", x.halves(), 1);
+        x = Checks.of("table a[9]rows=i" + "*i+i".repeat(11) + "-i;");
+        due("a SUM of 24 UNITS", x.entry(0, 8), 11 * 64);
+    }
+
+    /** What failed long ago leaves nothing behind that a later call could meet. */
+    private static void failingOften() {
+        OfficeTables x = Checks.of("table a[9]rows=1+(2*(3-(4+(5*(6+((i<8)?1:1/0))))));");
+        for (int k = 0; k < 240; k++) {
+            due("entry(0, 8), time " + k, x.entry(0, 8), 0);
+            reasons("time " + k, x, 1);
+            due("drop(0)", x.drop(0), 9);
+        }
+        due("entry(0, 7)", x.entry(0, 7), 1 + 2 * (3 - (4 + 5 * 7)));
+    }
+
     public static void main(String[] args) {
         numbers();
         order();
@@ -523,6 +553,8 @@ public final class MakingTest {
         dropping();
         kept();
         states();
+        failingOften();
+        muchAtOnce();
         CHECKS.end("MakingTest");
     }
 }

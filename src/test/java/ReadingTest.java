@@ -142,6 +142,21 @@ public final class ReadingTest {
         faultAt("table a[3]whole=i;^tables;");
     }
 
+    /** Every byte that begins no token, at every place where a token is due. */
+    private static void strangeBytes() {
+        String tokens = " \nabcdefghijklmnopqrstuvwxyz0123456789[]()=+-*/%<?:#;";
+        for (char one = 1; one < 256; one++) {
+            if (tokens.indexOf(one) < 0) {
+                for (String marked : new String[] {"^!", "table^! a[3]whole=i;", "table ^![3]whole=i;", "table a^!3]whole=i;",
+                    "table a[^!]whole=i;", "table a[#^!]whole=i;", "table a[3^!]whole=i;", "table a[3]^!=i;",
+                    "table a[3]whole^!i;", "table a[3]whole=^!;", "table a[3]whole=#^!;", "table a[3]whole=(^!);",
+                    "table a[3]whole=i^!", "table a[3]whole=i sum ^!;", "table a[3]whole=i;^!"}) {
+                    faultAt(marked.replace('!', one));
+                }
+            }
+        }
+    }
+
     private static void sumFaults() {
         faultAt("table a[3]whole=^;");
         faultAt("table a[3]whole=^+i;");
@@ -174,6 +189,17 @@ public final class ReadingTest {
         faultAt("table a[3]whole=i sum 3^+3;");
         faultAt("table a[3]whole=isum^;");
         faultAt("table a[3]whole=i ^a;");
+        faultAt("table a[3]whole=i sum^");
+        faultAt("table a[3]whole=i sum ^table b[3]whole=i;");
+        faultAt("table a[3]whole=(( ^));");
+        faultAt("table a[3]whole=((i<^));");
+        faultAt("table a[3]whole=((i?^));");
+        faultAt("table a[3]whole=((i?i^));");
+        faultAt("table a[3]whole=((i?i:^));");
+        faultAt("table a[3]whole=(a[^]);");
+        faultAt("table a[3]whole=a[(^];");
+        faultAt("table a[3]whole=(-^);");
+        faultAt("table a[3]whole=(--^);");
     }
 
     private static void tooMany() {
@@ -184,6 +210,7 @@ public final class ReadingTest {
         faultAt("table a[1]whole=i" + repeat("+i", 23) + "*^(i);");
         faultAt("table a[1]whole=i" + repeat("*i", 22) + "-(^i);");
         faultAt("table a[1]whole=i" + repeat("*i", 22) + "*-^i;");
+        faultAt("table a[1]whole=i" + repeat("+i", 22) + "+-^-i;");
         faultAt("table a[1]whole=i" + repeat("+i", 22) + "+a[^i];");
         faultAt("table a[1]whole=i" + repeat("+i", 21) + "+(i<^i);");
         faultAt("table a[1]whole=i" + repeat("+i", 20) + "+(i?i:^i);");
@@ -324,6 +351,7 @@ public final class ReadingTest {
         feedingFull();
         wellTold();
         tokenFaults();
+        strangeBytes();
         sumFaults();
         tooMany();
         nameFaults();
