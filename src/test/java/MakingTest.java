@@ -7,36 +7,16 @@ public final class MakingTest {
         CHECKS.due(call, got, want);
     }
 
-    /** All reasons of the latest call, the outermost first, and that there are no more. */
     private static void reasons(String when, OfficeTables x, int... want) {
-        for (int k = 0; k < want.length; k++) {
-            due(when + ": reason(" + k + ")", x.reason(k), want[k]);
-        }
-        due(when + ": reason(" + want.length + ")", x.reason(want.length), OfficeTables.NONE);
-        due(when + ": reason(-1)", x.reason(-1), OfficeTables.NONE);
-        due(when + ": reason(max)", x.reason(Integer.MAX_VALUE), OfficeTables.NONE);
+        CHECKS.reasons(when, x, want);
     }
 
-    /** All builds as rows of table, row, who asked. */
     private static void builds(String when, OfficeTables x, int[]... want) {
-        due(when + ": builds()", x.builds(), want.length);
-        for (int i = 0; i < want.length; i++) {
-            for (int what = 0; what < 3; what++) {
-                due(when + ": build(" + i + ", " + what + ")", x.build(i, what), want[i][what]);
-            }
-        }
-        due(when + ": build(" + want.length + ", 0)", x.build(want.length, 0), OfficeTables.UNKNOWN);
+        CHECKS.builds(when, x, want);
     }
 
-    /** All halves as rows of table, place, who read, what was there. */
     private static void halves(String when, OfficeTables x, long[]... want) {
-        due(when + ": halves()", x.halves(), want.length);
-        for (int i = 0; i < want.length; i++) {
-            for (int what = 0; what < 4; what++) {
-                due(when + ": half(" + i + ", " + what + ")", x.half(i, what), want[i][what]);
-            }
-        }
-        due(when + ": half(" + want.length + ", 3)", x.half(want.length, 3), OfficeTables.UNKNOWN);
+        CHECKS.halves(when, x, want);
     }
 
     /** The value of a sum at place 0, over the powers of 2 in p. */
@@ -530,7 +510,7 @@ public final class MakingTest {
     /** What failed long ago leaves nothing behind that a later call could meet. */
     private static void failingOften() {
         OfficeTables x = Checks.of("table a[9]rows=1+(2*(3-(4+(5*(6+((i<8)?1:1/0))))));");
-        for (int k = 0; k < 240; k++) {
+        for (int k = 0; k < 80; k++) {
             due("entry(0, 8), time " + k, x.entry(0, 8), 0);
             reasons("time " + k, x, 1);
             due("drop(0)", x.drop(0), 9);

@@ -8,13 +8,11 @@ public final class ReadingTest {
     }
 
     private static void reading(String text, int want) {
-        due("read() of " + text, Checks.reading(text), want);
+        CHECKS.reading(text, want);
     }
 
-    /** The fault is at the place of the sign ^, which is not in the text itself. */
     private static void faultAt(String marked) {
-        int place = marked.indexOf('^');
-        reading(marked.substring(0, place) + marked.substring(place + 1), -100 - place);
+        CHECKS.faultAt(marked);
     }
 
     private static String repeat(String one, int times) {
