@@ -498,6 +498,8 @@ public final class TermsTest {
         reading("table a[1]whole=i" + more + ";table b[1]whole=i" + more + ";", 2);
         faultAt("table a[1]whole=i" + more + ";table b[1]whole=i" + more + "*^i;");
         faultAt("table a[1]whole=i" + "+((i))".repeat(7) + "+i+i+^i;");
+        due("24 UNITS worked out", Checks.of("table a[9]rows=i" + "*i+i".repeat(11) + "-i;").entry(0, 8), 11 * 64);
+        due("24 with 7 choices", Checks.of("table a[1]whole=" + "(0?1:".repeat(7) + "1+2+3" + ")".repeat(7) + ";").entry(0, 0), 6);
     }
 
     private static void oneThatIsInMoreThanTenOthers() {
@@ -519,6 +521,8 @@ public final class TermsTest {
         faultAt("table a[1]whole=-(a[-(a[-(a[-(^i)])])]);");
         faultAt("table a[1]whole=(((((((((((^(i)))))))))));");
         reading("table a[1]whole=((((((((((i))))))))))+((((((((((i))))))))));", 1);
+        String inTen = "(1-".repeat(10) + "i" + ")".repeat(10);
+        due("in 10 others, worked out", Checks.of("table a[9]whole=" + inTen + ";").entry(0, 8), 8);
         reading("table a[1]whole=((((((((((i+i*i))))))))));", 1);
         reading("table a[1]whole=((((((((((i))))))))));table b[1]whole=((((((((((i))))))))));", 2);
         faultAt("table a[1]whole=((((((((((i)))))))))+((((((((((^i)))))))))));");
@@ -527,6 +531,7 @@ public final class TermsTest {
     private static void theNinthPart() {
         CHECK.holds(TAPE, "the 9th PART of a SIZE");
         reading("table a[1+1+1+1+1+1+1+1]whole=i;", 1);
+        due("8 PARTS", sizeOf("1+2*3-4+5*6-7+8"), 61);
         for (String part : new String[] {"1", "#a", "#b", "!", "]", "+", "x", "1234567"}) {
             for (String sign : new String[] {"+", "-", "*"}) {
                 faultAt("table a[1+1*1-1+1*1-1+1" + sign + "^" + part + "]whole=i;");
