@@ -138,6 +138,40 @@ public final class PromisesTest {
         due("entry(1, 2) later", x.entry(1, 2), 8);
     }
 
+    /** Texts of before may be kept somewhere: whatever stood in them, shorter ones have nothing of it. */
+    private static void nothingOfTextsBefore() {
+        CHECK.holds("Promise 3", "whose TABLES come instead of those before");
+        String longer = "table a[20]rows=a[i]*0+i;table b[20]whole=a[i]*0+i;table c[20]rows=a[i]*0+i sum 190;table d[20]whole=i/0;";
+        OfficeTables x = new OfficeTables();
+        for (int times = 0; times < 6; times++) {
+            read(x, longer, 4);
+            for (int table = 0; table < 4; table++) {
+                x.find(table, -1);
+            }
+            due("count(1)", x.count(1), 3);
+            due("count(2)", x.count(2), 1);
+            due("count(3)", x.count(3), 60);
+            for (int shorter = 3 - times % 3; shorter > 0 && times >= 3; shorter--) {
+                due("cut()", x.cut(), 0);
+                read(x, "table a[1]whole=i;table b[1]rows=i;table c[1]rows=i;".substring(0, new int[] {0, 18, 35, 52}[shorter]), shorter);
+                for (int what = 0; what < 5; what++) {
+                    due("count(" + what + ") of " + shorter, x.count(what), what == 0 ? shorter : 0);
+                }
+                for (int table = 0; table < shorter; table++) {
+                    due("reads(" + table + ", 0) of " + shorter, x.reads(table, 0), 0);
+                    due("sum(" + table + ", 0, 0, 0) of " + shorter, x.sum(table, 0, 0, 0), 0);
+                    due("state(" + table + ") of " + shorter, x.state(table), 2);
+                }
+                due("named(a)", x.named('a'), 0);
+                due("named(c)", x.named('c'), shorter == 3 ? 2 : NONE);
+                due("named(d)", x.named('d'), NONE);
+                due("reads(0, " + shorter + ")", x.reads(0, shorter), UNKNOWN);
+                due("entry(" + shorter + ", 0)", x.entry(shorter, 0), 0);
+                due("builds()", x.builds(), 2 * shorter - 1);
+            }
+        }
+    }
+
     private static void allAsleep() {
         CHECK.holds("Promise 3", "all ASLEEP");
         OfficeTables x = three();
@@ -821,6 +855,7 @@ public final class PromisesTest {
         asFarAsTheyAreNotZero();
         full();
         tablesInsteadOfThoseBefore();
+        nothingOfTextsBefore();
         allAsleep();
         noBuildsHalvesReasons();
         howManyTables();
